@@ -69,10 +69,13 @@ public final class PromisesTest {
         SnowSuits x = new SnowSuits();
         counts("1 new", x, 6, 2, 0, 6, 0, 0, 0, 2, 0, 0, 0, 0, 0, 0);
         int[] kinds = {0, 1, 2, 3, 0, 1};
+        int[] told = {4, 5, 3, 4, 6, 3};
         int[] takes = {4, 3, 3, 6, 6, 2};
         for (int c = 0; c < 6; c++) {
             due("1 child(" + c + ", 0)", x.child(c, 0), kinds[c]);
             due("1 child(" + c + ", 4)", x.child(c, 4), takes[c]);
+            x.seen(c, told[c], 0);
+            due("1 as long as a plain or cool one: kinds(" + c + ")", x.kinds(c), 5);
         }
         due("1 fault()", x.fault(), NONE);
         due("1 lay()", x.lay(), NO);
@@ -154,7 +157,7 @@ public final class PromisesTest {
         }
         String[] wrongFirst = {"c4,4;", "c0,0;", "c0,13;", "c000,4;", "c0,004;", "w0;", "w4;", "h0;", "h21;", "g0;", "g5;",
             "l0;", "l100;", "c0;", "c0,1,2;", "w1,2;", "c,1;", "c0,;", "w;", ";", "x1;", " c0,1;", "C0,1;", "c-1,4;", "c0,4",
-            "c0,", "c0", "c", "cc0,4;", "c0 ,4;", "c0,4 ;", "c0.4;", "00;", "w1,;", "w,1;", "c10,4;", "c:,4;", "c0,/;"};
+            "c0,", "c0", "c", "cc0,4;", "c0 ,4;", "c0,4 ;", "c0.4;", "00;", "w1,;", "w,1;", "w1,0;", "w1,00;", "l9,1;", "c10,4;", "c:,4;", "c0,/;"};
         for (String text : wrongFirst) {
             faultOf(text, 0);
             faultOf("c0,4;" + text, 5);
@@ -213,7 +216,14 @@ public final class PromisesTest {
         x.pass(9);
         due("5 both boils above 2: child(1, 1)", x.child(1, 1), 0);
         due("5 child(1, 5)", x.child(1, 5), 1);
+        x.take(2, 0);
+        x.layOut(1);
+        x.pass(1);
         due("5 lay() again", x.lay(), 2);
+        for (int w = 0; w < 3; w++) {
+            due("5 woman(" + w + ", 0)", x.woman(w, 0), 0);
+            due("5 woman(" + w + ", 1)", x.woman(w, 1), 0);
+        }
         counts("5 laid again", x, 2, 3, 0, 2, 0, 0, 0, 3, 0, 0, 0, 0, 0, 34);
         due("5 women(3), lunch is at minute 9", x.women(3), 9);
     }
@@ -620,6 +630,18 @@ public final class PromisesTest {
         int[] row = {0, 2, 1};
         for (int k = 0; k < 3; k++) {
             due("14 as soon, but boils less: best(" + k + ")", x.best(k), row[k]);
+        }
+        // One woman: none boils only if the longest one is the first; of these rows the others by number come first.
+        bestIs("c0,1;c0,2;c0,3;c0,4;w1;h6;", 10, 3, 0, 1, 2);
+        bestIs("c0,1;c0,1;c0,1;c0,1;c0,1;c0,6;w1;h5;", 11, 5, 0, 1, 2, 3, 4);
+    }
+
+    private static void bestIs(String text, int minutes, int... row) {
+        SnowSuits x = hall(text);
+        due("14 best(-1) of " + text, x.best(-1), minutes);
+        due("14 best(-2) of " + text, x.best(-2), 0);
+        for (int k = 0; k < row.length; k++) {
+            due("14 best(" + k + ") of " + text, x.best(k), row[k]);
         }
     }
 
