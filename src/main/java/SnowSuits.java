@@ -498,6 +498,8 @@ public final class SnowSuits {
         private int women;
         private int minute;
         private boolean laidOut;
+        // Counts on with every act, so that what was found out about a hall is known to be of old.
+        private int changes;
 
         Hall(Plan plan) {
             this.plan = plan;
@@ -517,6 +519,7 @@ public final class SnowSuits {
             women = howManyWomen;
             minute = 0;
             laidOut = false;
+            changes++;
         }
 
         void copyFrom(Hall other) {
@@ -529,6 +532,7 @@ public final class SnowSuits {
             women = other.women;
             minute = other.minute;
             laidOut = other.laidOut;
+            changes++;
         }
 
         boolean hasWoman(int w) {
@@ -632,6 +636,7 @@ public final class SnowSuits {
             toDo[w] = minutesToDress(c);
             inHands[w] = c;
             childIs[c] = IN_HANDS;
+            changes++;
             return toDo[w];
         }
 
@@ -645,6 +650,7 @@ public final class SnowSuits {
             }
             womanIs[w] = LAYS_OUT;
             toDo[w] = MINUTES_TO_LAY_OUT;
+            changes++;
             return toDo[w];
         }
 
@@ -659,6 +665,7 @@ public final class SnowSuits {
             }
             int places = oneWomanLeft() ? MOST_CHILDREN : plan.goAtATime;
             womanIs[w] = OUT;
+            changes++;
             int bits = 0;
             for (int i = 0; i < places; i++) {
                 int c = hottest();
@@ -689,6 +696,7 @@ public final class SnowSuits {
             int boils = heat();
             work();
             minute++;
+            changes++;
             return boils;
         }
 
@@ -866,13 +874,20 @@ public final class SnowSuits {
         private final int[] bestRow = new int[MOST_CHILDREN];
         private int minutes;
         private int boils;
+        private int triedAt = NONE;
 
         Search(Plan plan, Course course) {
             this.plan = plan;
             this.course = course;
         }
 
+        /** Finds the BEST row from the hall of the object, always the same one. */
         void tryAllRows(Hall from) {
+            // What is asked of BEST comes in several calls: the rows are tried again only if something has changed.
+            if (from.changes == triedAt) {
+                return;
+            }
+            triedAt = from.changes;
             minutes = NONE;
             boils = NONE;
             System.arraycopy(BY_NUMBER, 0, row, 0, MOST_CHILDREN);

@@ -26,6 +26,7 @@ public final class PromisesTest {
         asTiming();
         best();
         bestOfSeveral();
+        bestFromNowOn();
         last();
         pays();
         women();
@@ -634,6 +635,35 @@ public final class PromisesTest {
         // One woman: none boils only if the longest one is the first; of these rows the others by number come first.
         bestIs("c0,1;c0,2;c0,3;c0,4;w1;h6;", 10, 3, 0, 1, 2);
         bestIs("c0,1;c0,1;c0,1;c0,1;c0,1;c0,6;w1;h5;", 11, 5, 0, 1, 2, 3, 4);
+    }
+
+    /** Every change makes BEST another than it was in the call ahead of it. */
+    private static void bestFromNowOn() {
+        SnowSuits x = hall("c0,2;c0,2;c0,4;w2;l40;");
+        due("14 best(-1)", x.best(-1), 4);
+        x.keep();
+        x.take(0, 0);
+        x.take(1, 1);
+        due("14 both short ones taken: best(-1)", x.best(-1), 6);
+        x.undo();
+        due("14 one undone: best(-1)", x.best(-1), 4);
+        x.layOut(1);
+        due("14 one lays out: best(-1)", x.best(-1), 6);
+        x.pass(3);
+        due("14 behind three minutes: best(-1)", x.best(-1), 3);
+        x.pass(40);
+        due("14 behind lunch: best(-1)", x.best(-1), NONE);
+        x.back();
+        due("14 as kept: best(-1)", x.best(-1), 4);
+        x.wipe();
+        tell(x, "c0,1;c0,1;w1;");
+        x.lay();
+        due("14 another hall: best(-1)", x.best(-1), 2);
+        x.take(0, 0);
+        x.pass(1);
+        due("14 one is ready: best(-1)", x.best(-1), 1);
+        x.door(0);
+        due("14 the last woman is out: best(-1)", x.best(-1), NONE);
     }
 
     private static void bestIs(String text, int minutes, int... row) {
