@@ -165,14 +165,14 @@ public final class SnowSuits {
         if (k < -2) {
             return BAD;
         }
-        if (k >= plan.children) {
-            return NONE;
-        }
         search.tryAllRows(now);
-        if (k == -1 || search.minutes == NONE) {
+        if (k == -1) {
             return search.minutes;
         }
-        return k == -2 ? search.boils : search.bestRow[k];
+        if (k == -2) {
+            return search.boils;
+        }
+        return search.minutes != NONE && plan.hasChild(k) ? search.bestRow[k] : NONE;
     }
 
     public int last() {

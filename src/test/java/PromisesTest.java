@@ -46,19 +46,6 @@ public final class PromisesTest {
         CHECK.due(call, got, want);
     }
 
-    private static void tell(SnowSuits x, String text) {
-        for (int i = 0; i < text.length(); i++) {
-            x.write(text.charAt(i));
-        }
-    }
-
-    private static SnowSuits hall(String text) {
-        SnowSuits x = new SnowSuits();
-        tell(x, text);
-        CHECK.isTrue("lay of " + text, x.lay() > 0);
-        return x;
-    }
-
     /** All of count, in one row. */
     private static void counts(String when, SnowSuits x, int... want) {
         for (int what = 0; what < want.length; what++) {
@@ -141,10 +128,10 @@ public final class PromisesTest {
     private static void wipe() {
         SnowSuits x = new SnowSuits();
         due("3 wipe() of nothing", x.wipe(), 0);
-        tell(x, "xyz");
+        Halls.tell(x, "xyz");
         due("3 wipe()", x.wipe(), 3);
         due("3 count(13)", x.count(13), 0);
-        tell(x, "c0,1;");
+        Halls.tell(x, "c0,1;");
         due("3 lay() of what was written since", x.lay(), 1);
         due("3 wipe() again", x.wipe(), 5);
         due("3 the hall stays", x.count(0), 1);
@@ -171,16 +158,16 @@ public final class PromisesTest {
         faultOf("c0,1;c0,1;c0,1;c0,1;c0,1;c0,1;c0,1;w9;", 30);
         SnowSuits full = new SnowSuits();
         for (int i = 0; i < 66; i++) {
-            tell(full, "w1;");
+            Halls.tell(full, "w1;");
         }
         due("4 fault() of 198", full.fault(), NONE);
-        tell(full, "w1");
+        Halls.tell(full, "w1");
         due("4 fault() of 200", full.fault(), 198);
     }
 
     private static void faultOf(String text, int want) {
         SnowSuits x = new SnowSuits();
-        tell(x, text);
+        Halls.tell(x, text);
         due("4 fault() of " + text, x.fault(), want);
         due("4 the text stays", x.count(13), text.length());
         if (want != NONE) {
@@ -197,11 +184,11 @@ public final class PromisesTest {
         x.layOut(1);
         x.pass(11);
         due("5 one has boiled", x.count(9), 1);
-        tell(x, "w3;");
+        Halls.tell(x, "w3;");
         due("5 lay() without a child", x.lay(), NO);
         counts("5 nothing changes", x, 6, 2, 11, 6, 0, 0, 0, 2, 1, 1, 1, 3, 1, 3);
         x.wipe();
-        tell(x, "c3,7;c1,9;w1;w3;h1;h2;g2;g1;l5;l9;");
+        Halls.tell(x, "c3,7;c1,9;w1;w3;h1;h2;g2;g1;l5;l9;");
         due("5 lay()", x.lay(), 2);
         counts("5 laid", x, 2, 3, 0, 2, 0, 0, 0, 3, 0, 0, 0, 0, 0, 34);
         due("5 child(0, 0)", x.child(0, 0), 3);
@@ -231,7 +218,7 @@ public final class PromisesTest {
 
     /** Without w, h, g, l: 2 women, one boils above 9, 3 at a time, lunch at minute 60. */
     private static void layWithout() {
-        SnowSuits x = hall("c0,1;c0,1;c0,1;c0,1;");
+        SnowSuits x = Halls.of("c0,1;c0,1;c0,1;c0,1;");
         due("5 count(1)", x.count(1), 2);
         for (int c = 0; c < 4; c++) {
             due("5 take(0, " + c + ")", x.take(0, c), 1);
@@ -253,7 +240,7 @@ public final class PromisesTest {
     }
 
     private static void child() {
-        SnowSuits x = hall("c0,4;c1,5;c2,3;c3,4;w2;h2;");
+        SnowSuits x = Halls.of("c0,4;c1,5;c2,3;c3,4;w2;h2;");
         due("6 child(3, 0)", x.child(3, 0), 3);
         due("6 bare: child(0, 1)", x.child(0, 1), 0);
         due("6 bare: child(0, 2)", x.child(0, 2), NONE);
@@ -299,7 +286,7 @@ public final class PromisesTest {
     }
 
     private static void woman() {
-        SnowSuits x = hall("c0,4;c1,1;w3;");
+        SnowSuits x = Halls.of("c0,4;c1,1;w3;");
         x.take(0, 0);
         x.layOut(1);
         x.take(2, 1);
@@ -319,7 +306,7 @@ public final class PromisesTest {
         due("7 woman(-1, 0)", x.woman(-1, 0), BAD);
         due("7 woman(0, 2)", x.woman(0, 2), BAD);
         due("7 woman(0, -1)", x.woman(0, -1), BAD);
-        due("7 woman(1, 0) of one", hall("c0,1;w1;").woman(1, 0), BAD);
+        due("7 woman(1, 0) of one", Halls.of("c0,1;w1;").woman(1, 0), BAD);
         for (int far : FAR) {
             due("7 woman(" + far + ", 0)", x.woman(far, 0), BAD);
             due("7 woman(0, " + far + ")", x.woman(0, far), BAD);
@@ -331,16 +318,16 @@ public final class PromisesTest {
         int[] least = {1, 1, 1, 3};
         int[] leastLaidOut = {1, 1, 1, 2};
         for (int c = 0; c < 4; c++) {
-            SnowSuits x = hall(every);
+            SnowSuits x = Halls.of(every);
             due("8 take(0, " + c + ")", x.take(0, c), least[c]);
-            x = hall(every);
+            x = Halls.of(every);
             x.layOut(0);
             x.pass(3);
             due("8 laid out: take(0, " + c + ")", x.take(0, c), leastLaidOut[c]);
         }
-        due("8 a quick one of 12", hall("c1,12;").take(0, 0), 6);
-        due("8 a quick one of 11", hall("c1,11;").take(0, 0), 6);
-        SnowSuits x = hall("c0,2;c0,5;w2;");
+        due("8 a quick one of 12", Halls.of("c1,12;").take(0, 0), 6);
+        due("8 a quick one of 11", Halls.of("c1,11;").take(0, 0), 6);
+        SnowSuits x = Halls.of("c0,2;c0,5;w2;");
         due("8 take(0, 0)", x.take(0, 0), 2);
         due("8 take(0, 1), she is not free", x.take(0, 1), NO);
         due("8 take(1, 0), it is not bare", x.take(1, 0), NO);
@@ -367,7 +354,7 @@ public final class PromisesTest {
     }
 
     private static void layOut() {
-        SnowSuits x = hall("c0,5;c0,4;w3;");
+        SnowSuits x = Halls.of("c0,5;c0,4;w3;");
         x.take(0, 0);
         due("9 layOut(0), not free", x.layOut(0), NO);
         due("9 layOut(1)", x.layOut(1), 3);
@@ -391,7 +378,7 @@ public final class PromisesTest {
     }
 
     private static void door() {
-        SnowSuits x = hall("c0,3;c0,1;c0,1;c0,1;c0,9;w3;g2;");
+        SnowSuits x = Halls.of("c0,3;c0,1;c0,1;c0,1;c0,9;w3;g2;");
         due("10 door(0), nobody is ready", x.door(0), NO);
         x.take(0, 1);
         x.take(1, 0);
@@ -417,21 +404,21 @@ public final class PromisesTest {
         for (int far : FAR) {
             due("10 door(" + far + ")", x.door(far), BAD);
         }
-        SnowSuits one = hall("c0,1;c0,1;c0,1;c0,1;w1;g1;");
+        SnowSuits one = Halls.of("c0,1;c0,1;c0,1;c0,1;w1;g1;");
         for (int c = 0; c < 3; c++) {
             one.take(0, c);
             one.pass(1);
         }
         due("10 door(0), the last woman goes with all", one.door(0), 7);
         due("10 count(3), who is left", one.count(3), 1);
-        SnowSuits few = hall("c0,1;w2;g4;");
+        SnowSuits few = Halls.of("c0,1;w2;g4;");
         few.take(0, 0);
         few.pass(1);
         due("10 door(1), fewer than go at a time", few.door(1), 1);
     }
 
     private static void pass() {
-        SnowSuits x = hall("c0,1;c0,3;w2;h1;");
+        SnowSuits x = Halls.of("c0,1;c0,3;w2;h1;");
         x.take(0, 0);
         x.take(1, 1);
         due("11 pass(1)", x.pass(1), 0);
@@ -461,9 +448,9 @@ public final class PromisesTest {
     private static void heatOfCool() {
         int[] fromOdd = {0, 0, 1, 1, 2};
         int[] fromEven = {0, 1, 1, 2, 2};
-        SnowSuits odd = hall("c2,1;w1;h2;");
+        SnowSuits odd = Halls.of("c2,1;w1;h2;");
         odd.take(0, 0);
-        SnowSuits even = hall("c2,2;w1;h2;");
+        SnowSuits even = Halls.of("c2,2;w1;h2;");
         even.take(0, 0);
         odd.pass(1);
         even.pass(2);
@@ -478,7 +465,7 @@ public final class PromisesTest {
     }
 
     private static void undo() {
-        SnowSuits x = hall("c0,1;c0,2;c3,1;w2;h1;g1;");
+        SnowSuits x = Halls.of("c0,1;c0,2;c3,1;w2;h1;g1;");
         due("12 undo() of nothing", x.undo(), NO);
         x.take(0, 0);
         x.take(1, 1);
@@ -487,7 +474,7 @@ public final class PromisesTest {
         x.pass(4);
         x.seen(0, 1, 0);
         x.keep();
-        tell(x, "w3;");
+        Halls.tell(x, "w3;");
         counts("12 done", x, 3, 2, 6, 3, 0, 0, 0, 2, 1, 2, 1, 5, 1, 27);
         due("12 undo() of minutes, all at once", x.undo(), 4);
         due("12 count(2)", x.count(2), 2);
@@ -519,7 +506,7 @@ public final class PromisesTest {
     }
 
     private static void undoLastEight() {
-        SnowSuits x = hall("c0,9;");
+        SnowSuits x = Halls.of("c0,9;");
         for (int i = 1; i <= 20; i++) {
             x.pass(i);
             due("12 count(11)", x.count(11), Math.min(i, 8));
@@ -539,7 +526,7 @@ public final class PromisesTest {
     }
 
     private static void asTold() {
-        SnowSuits x = hall("c0,2;c0,2;c0,4;w2;");
+        SnowSuits x = Halls.of("c0,2;c0,2;c0,4;w2;");
         due("13 asTold(0)", x.asTold(0), 6);
         due("13 asTold(1)", x.asTold(1), 0);
         due("13 nothing changes", x.count(3), 3);
@@ -554,14 +541,14 @@ public final class PromisesTest {
         x.pass(3);
         due("13 three minutes on: asTold(0)", x.asTold(0), 3);
 
-        SnowSuits none = hall("c0,2;c0,2;c0,4;w2;l5;");
+        SnowSuits none = Halls.of("c0,2;c0,2;c0,4;w2;l5;");
         due("13 lunch is sooner: asTold(0)", none.asTold(0), NONE);
         due("13 lunch is sooner: asTold(1)", none.asTold(1), NONE);
         due("13 bad ahead of none: asTold(2)", none.asTold(2), BAD);
-        due("13 just at lunch: asTold(0)", hall("c0,2;c0,2;c0,4;w2;l6;").asTold(0), 6);
+        due("13 just at lunch: asTold(0)", Halls.of("c0,2;c0,2;c0,4;w2;l6;").asTold(0), 6);
 
         // 0 is ready at 1, boils at 3, is taken again at 3, and is ready with 1 at 4.
-        SnowSuits boils = hall("c0,1;c0,4;w2;h1;");
+        SnowSuits boils = Halls.of("c0,1;c0,4;w2;h1;");
         due("13 asTold(0)", boils.asTold(0), 4);
         due("13 asTold(1)", boils.asTold(1), 1);
         boils.take(0, 0);
@@ -573,16 +560,16 @@ public final class PromisesTest {
     /** The doors in what comes: who opens, when, and what the last woman does. */
     private static void asTiming() {
         // 0 and 1 are out with woman 1 at 1; woman 0 alone dresses 2 and 3 by 3.
-        due("13 g2: asTold(0)", hall("c0,1;c0,1;c0,1;c0,1;w2;g2;").asTold(0), 3);
+        due("13 g2: asTold(0)", Halls.of("c0,1;c0,1;c0,1;c0,1;w2;g2;").asTold(0), 3);
         // Nobody goes at 1 or 2 with less than 3 ready; at 2 all are, and go with both.
-        due("13 g3: asTold(0)", hall("c0,1;c0,1;c0,1;c0,1;w2;g3;").asTold(0), 2);
+        due("13 g3: asTold(0)", Halls.of("c0,1;c0,1;c0,1;c0,1;w2;g3;").asTold(0), 2);
         // The door comes ahead of taking: woman 1 goes at 1 with 0, woman 0 dresses 2.
-        due("13 g1: asTold(0)", hall("c0,1;c0,3;c0,3;w2;g1;").asTold(0), 6);
+        due("13 g1: asTold(0)", Halls.of("c0,1;c0,3;c0,3;w2;g1;").asTold(0), 6);
         // She who is the last does not go with some, so 0 boils by 11 and is dressed again.
-        SnowSuits last = hall("c0,1;c0,10;w1;g1;");
+        SnowSuits last = Halls.of("c0,1;c0,10;w1;g1;");
         due("13 the last woman waits: asTold(0)", last.asTold(0), 12);
         due("13 the last woman waits: asTold(1)", last.asTold(1), 1);
-        SnowSuits gone = hall("c0,1;c0,1;w1;");
+        SnowSuits gone = Halls.of("c0,1;c0,1;w1;");
         gone.take(0, 0);
         gone.pass(1);
         gone.door(0);
@@ -591,14 +578,14 @@ public final class PromisesTest {
         due("13 no woman is left: last()", gone.last(), 0);
         due("13 no woman is left: pays()", gone.pays(), NONE);
         due("13 no woman is left: women(1)", gone.women(1), 2);
-        SnowSuits ready = hall("c0,1;w1;");
+        SnowSuits ready = Halls.of("c0,1;w1;");
         ready.take(0, 0);
         ready.pass(1);
         due("13 by the door ahead of the next minute: asTold(0)", ready.asTold(0), 0);
     }
 
     private static void best() {
-        SnowSuits x = hall("c0,2;c0,2;c0,4;w2;");
+        SnowSuits x = Halls.of("c0,2;c0,2;c0,4;w2;");
         due("14 best(-1)", x.best(-1), 4);
         due("14 best(-2)", x.best(-2), 0);
         int[] row = {0, 2, 1};
@@ -609,13 +596,13 @@ public final class PromisesTest {
         due("14 best(-3)", x.best(-3), BAD);
         due("14 best(MIN)", x.best(Integer.MIN_VALUE), BAD);
         due("14 nothing changes", x.count(3), 3);
-        SnowSuits none = hall("c0,2;c0,2;c0,4;w2;l3;");
+        SnowSuits none = Halls.of("c0,2;c0,2;c0,4;w2;l3;");
         for (int k = -2; k <= 3; k++) {
             due("14 lunch is sooner: best(" + k + ")", none.best(k), NONE);
         }
         due("14 bad ahead of none: best(-3)", none.best(-3), BAD);
-        due("14 just at lunch: best(-1)", hall("c0,2;c0,2;c0,4;w2;l4;").best(-1), 4);
-        SnowSuits out = hall("c0,1;c0,1;w1;");
+        due("14 just at lunch: best(-1)", Halls.of("c0,2;c0,2;c0,4;w2;l4;").best(-1), 4);
+        SnowSuits out = Halls.of("c0,1;c0,1;w1;");
         out.take(0, 1);
         out.pass(1);
         due("14 those not bare are in the row: best(1)", out.best(1), 1);
@@ -623,7 +610,7 @@ public final class PromisesTest {
 
     /** As told 1 is ready at 1 and boils by 5; behind 2 it does not, and all are out at 7 either way. */
     private static void bestOfSeveral() {
-        SnowSuits x = hall("c0,7;c0,1;c0,4;w2;h3;g3;");
+        SnowSuits x = Halls.of("c0,7;c0,1;c0,4;w2;h3;g3;");
         due("14 asTold(0)", x.asTold(0), 7);
         due("14 asTold(1)", x.asTold(1), 1);
         due("14 as soon, but boils less: best(-1)", x.best(-1), 7);
@@ -639,7 +626,7 @@ public final class PromisesTest {
 
     /** Every change makes BEST another than it was in the call ahead of it. */
     private static void bestFromNowOn() {
-        SnowSuits x = hall("c0,2;c0,2;c0,4;w2;l40;");
+        SnowSuits x = Halls.of("c0,2;c0,2;c0,4;w2;l40;");
         due("14 best(-1)", x.best(-1), 4);
         x.keep();
         x.take(0, 0);
@@ -656,7 +643,7 @@ public final class PromisesTest {
         x.back();
         due("14 as kept: best(-1)", x.best(-1), 4);
         x.wipe();
-        tell(x, "c0,1;c0,1;w1;");
+        Halls.tell(x, "c0,1;c0,1;w1;");
         x.lay();
         due("14 another hall: best(-1)", x.best(-1), 2);
         x.take(0, 0);
@@ -667,7 +654,7 @@ public final class PromisesTest {
     }
 
     private static void bestIs(String text, int minutes, int... row) {
-        SnowSuits x = hall(text);
+        SnowSuits x = Halls.of(text);
         due("14 best(-1) of " + text, x.best(-1), minutes);
         due("14 best(-2) of " + text, x.best(-2), 0);
         for (int k = 0; k < row.length; k++) {
@@ -676,28 +663,28 @@ public final class PromisesTest {
     }
 
     private static void last() {
-        due("15 last() of one", hall("c0,1;").last(), 1);
-        due("15 last() of all", hall("c0,2;c0,2;c0,4;w2;").last(), 7);
+        due("15 last() of one", Halls.of("c0,1;").last(), 1);
+        due("15 last() of all", Halls.of("c0,2;c0,2;c0,4;w2;").last(), 7);
         // One woman: who is ready boils above 2, so the long one can not be behind another.
-        due("15 last() of some", hall("c0,1;c0,2;c0,5;w1;h2;").last(), 0);
-        due("15 last() but the long one", hall("c0,5;c0,2;w1;h2;").last(), 2);
-        due("15 last() of either", hall("c0,2;c0,2;w1;h2;").last(), 3);
-        due("15 last(), lunch is sooner", hall("c0,2;c0,2;w1;h2;l3;").last(), 0);
+        due("15 last() of some", Halls.of("c0,1;c0,2;c0,5;w1;h2;").last(), 0);
+        due("15 last() but the long one", Halls.of("c0,5;c0,2;w1;h2;").last(), 2);
+        due("15 last() of either", Halls.of("c0,2;c0,2;w1;h2;").last(), 3);
+        due("15 last(), lunch is sooner", Halls.of("c0,2;c0,2;w1;h2;l3;").last(), 0);
         // Behind: 2, then 0 and 1 (ready at 2 and 6); in front: 2 keeps one woman until 4.
-        due("15 last() by lunch", hall("c0,2;c0,2;c0,4;w2;l4;").last(), 2 + 1);
-        SnowSuits x = hall("c0,5;c0,2;w1;h2;");
+        due("15 last() by lunch", Halls.of("c0,2;c0,2;c0,4;w2;l4;").last(), 2 + 1);
+        SnowSuits x = Halls.of("c0,5;c0,2;w1;h2;");
         x.take(0, 1);
         due("15 last() from now on", x.last(), 0);
         due("15 nothing changes", x.count(4), 1);
     }
 
     private static void pays() {
-        due("16 pays(), a minute later", hall("c0,2;c0,3;w1;").pays(), 99);
-        due("16 pays(), three sooner", hall("c0,2;c0,2;c0,2;c0,2;c0,2;c0,2;w1;h20;").pays(), 103);
-        due("16 pays(), as soon", hall("c0,2;c0,2;c0,2;w1;").pays(), 100);
-        due("16 pays(), lunch is sooner by it", hall("c0,2;c0,3;w1;l5;").pays(), NONE);
-        due("16 pays(), lunch is sooner without", hall("c0,2;c0,2;c0,2;c0,2;c0,2;c0,2;w1;h20;l11;").pays(), NONE);
-        SnowSuits x = hall("c0,2;c0,2;c0,4;w2;");
+        due("16 pays(), a minute later", Halls.of("c0,2;c0,3;w1;").pays(), 99);
+        due("16 pays(), three sooner", Halls.of("c0,2;c0,2;c0,2;c0,2;c0,2;c0,2;w1;h20;").pays(), 103);
+        due("16 pays(), as soon", Halls.of("c0,2;c0,2;c0,2;w1;").pays(), 100);
+        due("16 pays(), lunch is sooner by it", Halls.of("c0,2;c0,3;w1;l5;").pays(), NONE);
+        due("16 pays(), lunch is sooner without", Halls.of("c0,2;c0,2;c0,2;c0,2;c0,2;c0,2;w1;h20;l11;").pays(), NONE);
+        SnowSuits x = Halls.of("c0,2;c0,2;c0,4;w2;");
         x.take(0, 0);
         due("16 pays(), the lowest free one", x.pays(), 100);
         due("16 nothing changes", x.count(7), 1);
@@ -711,7 +698,7 @@ public final class PromisesTest {
     }
 
     private static void women() {
-        SnowSuits x = hall("c0,2;c0,2;c0,4;w1;l8;");
+        SnowSuits x = Halls.of("c0,2;c0,2;c0,4;w1;l8;");
         due("17 women(1)", x.women(1), 8);
         due("17 women(2)", x.women(2), 6);
         due("17 women(3)", x.women(3), 4);
@@ -720,7 +707,7 @@ public final class PromisesTest {
         due("17 from the first: women(1)", x.women(1), 8);
         due("17 from the first: women(2)", x.women(2), 6);
         due("17 nothing changes", x.count(1), 1);
-        due("17 women(1), none", hall("c0,2;c0,2;c0,4;w3;l7;").women(1), NONE);
+        due("17 women(1), none", Halls.of("c0,2;c0,2;c0,4;w3;l7;").women(1), NONE);
         due("17 women(0)", x.women(0), BAD);
         due("17 women(4)", x.women(4), BAD);
         for (int far : FAR) {
@@ -759,7 +746,7 @@ public final class PromisesTest {
     }
 
     private static void kinds() {
-        SnowSuits x = hall("c0,4;c3,1;c1,2;");
+        SnowSuits x = Halls.of("c0,4;c3,1;c1,2;");
         due("20 kinds(0), nothing seen", x.kinds(0), 15);
         x.seen(0, 4, 0);
         due("20 kinds(0), plain or cool", x.kinds(0), 5);
@@ -785,7 +772,7 @@ public final class PromisesTest {
     }
 
     private static void takes() {
-        SnowSuits x = hall("c0,4;c1,1;c3,12;");
+        SnowSuits x = Halls.of("c0,4;c1,1;c3,12;");
         due("21 takes(0, 0), nothing seen", x.takes(0, 0), 12);
         due("21 takes(0, 1), nothing seen", x.takes(0, 1), 1);
         x.seen(1, 3, 0);
@@ -816,7 +803,7 @@ public final class PromisesTest {
     }
 
     private static void must() {
-        SnowSuits x = hall("c0,1;c0,1;c0,1;c0,1;c0,1;c0,1;w1;h20;");
+        SnowSuits x = Halls.of("c0,1;c0,1;c0,1;c0,1;c0,1;c0,1;w1;h20;");
         mustBe(x, 0, 0, 1, 1);
         mustBe(x, 1, 10, 0, 1);
         x.take(0, 0);
@@ -854,13 +841,13 @@ public final class PromisesTest {
 
     private static void morning() {
         // By z 0 the first two draws are 0 and 20743: child 0, and the door, both times.
-        SnowSuits x = hall("c0,1;w2;");
+        SnowSuits x = Halls.of("c0,1;w2;");
         due("23 morning(0, 1, 0)", x.morning(0, 1, 0), 0);
         due("23 morning(0, 2, 0)", x.morning(0, 2, 0), 1);
         due("23 nothing changes", x.count(3), 1);
         due("23 nothing is to be undone", x.count(11), 0);
-        due("23 the last woman: morning(0, 2, 0)", hall("c0,1;w1;").morning(0, 2, 0), 0);
-        SnowSuits boils = hall("c0,1;w1;h1;");
+        due("23 the last woman: morning(0, 2, 0)", Halls.of("c0,1;w1;").morning(0, 2, 0), 0);
+        SnowSuits boils = Halls.of("c0,1;w1;h1;");
         due("23 morning(0, 2, 1)", boils.morning(0, 2, 1), 0);
         due("23 morning(0, 3, 1)", boils.morning(0, 3, 1), 1);
         due("23 morning(0, 60, 1), dressed 3, boiled 2 minutes later, and again", boils.morning(0, 60, 1), 20);
@@ -886,7 +873,7 @@ public final class PromisesTest {
     }
 
     private static void keep() {
-        SnowSuits x = hall("c0,2;c0,1;w1;");
+        SnowSuits x = Halls.of("c0,2;c0,1;w1;");
         due("24 keep()", x.keep(), 1);
         x.take(0, 0);
         due("24 keep()", x.keep(), 2);
@@ -898,7 +885,7 @@ public final class PromisesTest {
     }
 
     private static void back() {
-        SnowSuits x = hall("c0,1;c0,2;w2;h1;");
+        SnowSuits x = Halls.of("c0,1;c0,2;w2;h1;");
         due("25 back() of nothing", x.back(), NO);
         x.take(0, 0);
         x.keep();
@@ -925,7 +912,7 @@ public final class PromisesTest {
     }
 
     private static void count() {
-        SnowSuits x = hall("c0,1;c0,1;c0,9;c0,1;c0,1;w3;h1;g1;");
+        SnowSuits x = Halls.of("c0,1;c0,1;c0,9;c0,1;c0,1;w3;h1;g1;");
         x.take(0, 0);
         x.take(1, 1);
         x.layOut(2);
@@ -939,7 +926,7 @@ public final class PromisesTest {
         x.seen(0, 1, 0);
         x.keep();
         x.wipe();
-        tell(x, "ab");
+        Halls.tell(x, "ab");
         counts("26", x, 5, 3, 5, 2, 1, 1, 1, 1, 1, 2, 1, 8, 1, 2);
         due("26 count(14)", x.count(14), BAD);
         due("26 count(-1)", x.count(-1), BAD);

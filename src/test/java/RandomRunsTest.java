@@ -30,7 +30,7 @@ public final class RandomRunsTest {
         int searches = 0;
         while (calls.size() < CALLS && check.wrong() == 0) {
             int n = random.nextInt(100);
-            if (n < 4) {
+            if (n < 4 && calls.size() < CALLS - 3) {
                 writeText();
             } else if (n < 60) {
                 act();
@@ -79,7 +79,8 @@ public final class RandomRunsTest {
         if (text.length() > 0 && random.nextInt(4) == 0) {
             text.setCharAt(random.nextInt(text.length()), "cwhgl0123456789,;; x".charAt(random.nextInt(20)));
         }
-        for (int i = 0; i < text.length(); i++) {
+        // With what is asked behind it, no more calls than an object is used for.
+        for (int i = 0; i < text.length() && calls.size() < CALLS - 2; i++) {
             int letter = text.charAt(i);
             due("write(" + letter + ")", x.write(letter), model.write(letter));
         }
@@ -146,7 +147,7 @@ public final class RandomRunsTest {
             due("forget()", x.forget(), model.forget());
             return;
         }
-        int n = random.nextInt(3) == 0 ? number(1, 20) : Math.max(1, x.child(c, 4) - laidOut);
+        int n = random.nextInt(3) == 0 ? number(1, 20) : Math.max(1, model.child(c, 4) - laidOut);
         due("seen(" + c + ", " + n + ", " + laidOut + ")", x.seen(c, n, laidOut), model.seen(c, n, laidOut));
     }
 
