@@ -96,7 +96,10 @@ public final class EdgesTest {
         String[] two = {"c03,12;", "w03;", "h20;", "g04;", "l99;"};
         String[] three = {"c003,1;", "c0,012;", "w003;", "h020;", "g004;", "l099;"};
         String[] notParted = {"c01;", "c0;1;", "c0.1;", "c0,,1;", "c,0,1;", "c0,1,;", "c0,1"};
-        for (String[] wrong : new String[][] {none, three, notParted}) {
+        // Signs beside 0 and 9, and others where a figure is due.
+        String[] noFigures = {"h:;", "l;;", "c0,:;", "c0,;;", "l/;", "c/,1;", "c0,/;", "l1:;", "l:1;", "c0,1:;", "c0,1/;",
+            "l+1;", "l 1;", "l1 ;", "l-1;", "c0, 1;"};
+        for (String[] wrong : new String[][] {none, three, notParted, noFigures}) {
             for (String text : wrong) {
                 faultOf(text, 0);
                 faultOf("l60;" + text, 4);
@@ -601,6 +604,24 @@ public final class EdgesTest {
         due("14 best(-2), the last row", turned.best(-2), 0);
         for (int k = 0; k < 3; k++) {
             due("14 best(" + k + "), the last row", turned.best(k), 2 - k);
+        }
+        // Rows near the end of all: none ahead of them is as soon with as few that boil.
+        bestIs("c0,3;c0,6;c2,6;c1,2;c0,2;w2;h1;g4;", 12, 2, 4, 3, 2, 1, 0);
+        bestIs("c0,5;c1,1;c0,1;c0,7;c2,2;c2,8;w1;h8;", 24, 0, 5, 4, 3, 0, 1, 2);
+        bestIs("c1,5;c2,4;c3,1;c2,6;c1,1;c3,2;w1;h7;g4;l99;", 26, 2, 5, 4, 3, 1, 0, 2);
+    }
+
+    private static void bestIs(String text, int minutes, int boils, int... row) {
+        SnowSuits x = Halls.of(text);
+        Model model = new Model();
+        text.chars().forEach(model::write);
+        model.lay();
+        due("14 the model's best(-1) of " + text, model.best(-1), minutes);
+        due("14 best(-1) of " + text, x.best(-1), minutes);
+        due("14 best(-2) of " + text, x.best(-2), boils);
+        for (int k = 0; k < row.length; k++) {
+            due("14 the model's best(" + k + ") of " + text, model.best(k), row[k]);
+            due("14 best(" + k + ") of " + text, x.best(k), row[k]);
         }
     }
 
