@@ -493,6 +493,9 @@ public final class EdgesTest {
     private static void doorAgainAndAgain() {
         due("13 asTold(0)", Halls.of("c0,1;c0,1;c0,5;c0,3;w3;g1;").asTold(0), 8);
         due("13 asTold(0), one at a time stays", Halls.of("c0,1;c0,1;c0,5;c0,3;w3;g2;").asTold(0), 5);
+        // Three doors in one minute, one for each woman; the last one goes with all, but not ahead of a bare one.
+        due("13 asTold(0), three doors", Halls.of("c0,1;c0,1;c0,1;w3;g1;").asTold(0), 1);
+        due("13 asTold(0), two doors", Halls.of("c0,1;c0,1;c0,1;c0,4;w3;g1;").asTold(0), 5);
         // All are ready: the first of two goes with one, the other one with all others.
         SnowSuits x = Halls.of("c0,1;c0,1;c0,1;w2;g1;");
         Halls.dress(x, 0, 0, 1, 2);

@@ -30,6 +30,7 @@ public final class RefusedTest {
         full();
         ofSeveralTheFirst();
         tellingChangesNothing();
+        tellingIsOfNow();
         CHECK.end("RefusedTest");
     }
 
@@ -405,5 +406,24 @@ public final class RefusedTest {
         nothingChanges(RefusedTest::busy, "23 morning(9999, 60, 1)", x -> x.morning(9999, 60, 1));
         nothingChanges(RefusedTest::busy, "26 count(9)", x -> x.count(9));
         nothingChanges(() -> busyWith("c0,1;c4,1;"), "4 fault()", x -> x.fault());
+    }
+
+    /** What was told ahead of two acts, whichever they are, is no more told behind them. */
+    private static void tellingIsOfNow() {
+        List<ToIntFunction<SnowSuits>> acts = List.of(x -> x.take(1, 2), x -> x.layOut(1), x -> x.door(1), x -> x.pass(1),
+            x -> x.pass(6), x -> x.undo(), x -> x.back(), x -> x.lay());
+        for (int first = 0; first < acts.size(); first++) {
+            for (int second = 0; second < acts.size(); second++) {
+                SnowSuits asked = busy();
+                SnowSuits twin = busy();
+                all(asked);
+                for (SnowSuits x : List.of(asked, twin)) {
+                    acts.get(first).applyAsInt(x);
+                    acts.get(second).applyAsInt(x);
+                }
+                String call = "14 all behind acts " + first + " and " + second;
+                CHECK.isTrue(call + ", asked ahead of them or not", all(asked).equals(all(twin)));
+            }
+        }
     }
 }
