@@ -32,6 +32,7 @@ public final class EdgesTest {
         allOutAlready();
         allOutByLunch();
         bestRows();
+        bestIsTheLastRow();
         lastOfFew();
         paysOrNot();
         womenFromTheFirst();
@@ -615,17 +616,34 @@ public final class EdgesTest {
     }
 
     private static void bestIs(String text, int minutes, int boils, int... row) {
-        SnowSuits x = Halls.of(text);
+        bestIs(Halls.of(text), modelOf(text), text, minutes, boils, row);
+    }
+
+    private static Model modelOf(String text) {
         Model model = new Model();
         text.chars().forEach(model::write);
         model.lay();
-        due("14 the model's best(-1) of " + text, model.best(-1), minutes);
-        due("14 best(-1) of " + text, x.best(-1), minutes);
-        due("14 best(-2) of " + text, x.best(-2), boils);
+        return model;
+    }
+
+    private static void bestIs(SnowSuits x, Model model, String of, int minutes, int boils, int... row) {
+        due("14 the model's best(-1) of " + of, model.best(-1), minutes);
+        due("14 best(-1) of " + of, x.best(-1), minutes);
+        due("14 best(-2) of " + of, x.best(-2), boils);
         for (int k = 0; k < row.length; k++) {
-            due("14 the model's best(" + k + ") of " + text, model.best(k), row[k]);
-            due("14 best(" + k + ") of " + text, x.best(k), row[k]);
+            due("14 the model's best(" + k + ") of " + of, model.best(k), row[k]);
+            due("14 best(" + k + ") of " + of, x.best(k), row[k]);
         }
+    }
+
+    /** "by that of all rows": the last of all 720, too, here the only one that is as soon with as few that boil. */
+    private static void bestIsTheLastRow() {
+        String hall = "c0,1;c1,5;c2,4;c2,5;c2,1;c3,9;w2;h2;g4;l50;";
+        SnowSuits x = Halls.of(hall);
+        Model model = modelOf(hall);
+        due("8 take(0, 1)", x.take(0, 1), model.take(0, 1));
+        due("11 pass(1)", x.pass(1), model.pass(1));
+        bestIs(x, model, hall + " behind a minute", 15, 2, 5, 4, 3, 2, 1, 0);
     }
 
     /** "CHILDREN (bits) such that, were one of them behind all others (these by number) in the row" */
