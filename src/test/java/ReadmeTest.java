@@ -24,7 +24,7 @@ public final class ReadmeTest {
             CHECK.isTrue("README.md shows " + method.getName(),
                 lines.stream().flatMap(line -> CALL.matcher(line).results()).anyMatch(m -> m.group(1).equals(method.getName())));
         }
-        runExample(example(lines));
+        runExample(example(lines), Files.createDirectories(Path.of(args[1]).resolveSibling("build").resolve("readme")));
         CHECK.end("ReadmeTest");
     }
 
@@ -58,8 +58,7 @@ public final class ReadmeTest {
         return "ReadmeTest.due(\"" + call.replace("\"", "\\\"") + "\", " + call + ", " + value + ");";
     }
 
-    private static void runExample(String source) throws Exception {
-        Path place = Files.createTempDirectory("readme");
+    private static void runExample(String source, Path place) throws Exception {
         Path file = place.resolve("Example.java");
         Files.writeString(file, source);
         int wrong = ToolProvider.getSystemJavaCompiler().run(null, null, null, "-d", place.toString(),
@@ -70,8 +69,5 @@ public final class ReadmeTest {
                 loader.loadClass("Example").getMethod("main", String[].class).invoke(null, (Object) new String[0]);
             }
         }
-        Files.deleteIfExists(place.resolve("Example.class"));
-        Files.deleteIfExists(file);
-        Files.deleteIfExists(place);
     }
 }
